@@ -49,10 +49,10 @@ public final class PromiseTest {
   private static final int[] WILD = {Integer.MIN_VALUE, -99, -3, -2, -1, 8, 9, 31, 32, 33, 1000, Integer.MAX_VALUE};
 
   public static void main(String[] args) {
-    p01(); p02(); p03(); p04(); p04bounds(); p04rings(); p04room(); p05(); p05goes();
+    p01(); p02(); p03(); p04(); p04bounds(); p04words(); p04rings(); p04room(); p05(); p05goes();
     p06(); p07(); p08(); p09(); p10(); p10knots(); p11(); p12(); p13(); p14(); p15(); p15orders();
-    p16(); p16eight(); p17(); p18(); p19(); p20(); p21(); p22(); p23(); p23ties(); p24(); p24ties();
-    p25(); p26(); p27(); p28(); p29(); p30(); constants();
+    p16(); p16eight(); p17(); p18(); p19(); p20(); p21(); p22(); p23(); p23ties(); p23sameDay(); p24(); p24ties();
+    p25(); p26(); p27(); p28(); p29(); p30(); full(); constants();
     System.out.println(calls + " calls, " + wrong + " not as due");
     if (wrong != 0) System.exit(1);
   }
@@ -163,6 +163,21 @@ public final class PromiseTest {
     faulty(x, "plain 1 1;cut 1 0", NONE);
     faulty(x, "loom;cut 0 0", 9);
     faulty(x, "loom;plain 1 1;cut 0 0;cut 1 0", 27);
+  }
+
+  private static void p04words() {
+    WhoseThread x = told("plain 9 0;plain 9 0");
+    String[] clauses = {"loom", "plain 1 1", "brave 1 1", "silk 1 1", "endless 1 1", "over 0 1", "knot 0 1", "cut 0 1", "calm", "free"};
+    for (String clause : clauses) {
+      faulty(x, clause, NONE);
+      int end = clause.indexOf(' ') < 0 ? clause.length() : clause.indexOf(' ');
+      for (int i = 0; i < end; i++) {
+        faulty(x, clause.substring(0, i) + 'z' + clause.substring(i + 1), 0);
+        faulty(x, clause.substring(0, i) + clause.substring(i + 1), 0);
+      }
+      faulty(x, "calm;a" + clause, 5);
+      faulty(x, clause.substring(0, end) + 'z' + clause.substring(end), 0);
+    }
   }
 
   private static void p04rings() {
@@ -681,6 +696,23 @@ public final class PromiseTest {
     due("swapped(1)", x.swapped(1), 30);
   }
 
+  private static void p23sameDay() {
+    // Both on one day, by their numbers: 1 (5 years), then 0 (16); the other way would lose 5.
+    WhoseThread x = told("plain 20 0;plain 9 0;over 1 0;cut 1 4;cut 0 4");
+    due("doom(0)", x.doom(0), 21);
+    due("swapped(NONE)", x.swapped(NONE), 21);
+    x.go(4);
+    due("on the day itself", x.swapped(NONE), 21);
+    due("swapped(1)", x.swapped(1), 4);
+    x.go(1);
+    due("on the next", x.swapped(NONE), 0);
+    x = told("plain 20 0;plain 9 0;over 1 0;plain 9 1;cut 2 0;cut 1 4;cut 0 4");
+    due("swapped(NONE) of three: 0 on day 0 (9), 2 on day 4 (5)", x.swapped(NONE), 14);
+    due("swapped(0)", x.swapped(0), 4);
+    due("swapped(1)", x.swapped(1), 4);
+    due("swapped(2)", x.swapped(2), 0);
+  }
+
   private static void p24() {
     WhoseThread x = told("plain 60 0;plain 50 0;brave 40 0;silk 30 1;endless 1 0;plain 60 1;knot 1 4");
     due("tails(NONE)", x.tails(NONE), 0);
@@ -830,6 +862,43 @@ public final class PromiseTest {
     x = told("plain 9 0;silk 9 0;silk 9 0;over 2 0");
     due("fourth(0), nothing lost", x.fourth(0), 0);
     due("fourth(1), nothing lost", x.fourth(1), 0);
+  }
+
+  /** Eight threads in a chain, six orders: the ends of every row are met. */
+  private static void full() {
+    WhoseThread x = told("plain 10 0;plain 11 0;plain 12 0;plain 13 0;plain 14 0;plain 15 0;plain 16 0;plain 17 0");
+    tell(x, "over 1 0;over 2 1;over 3 2;over 4 3;over 5 4;over 6 5;over 7 6");
+    tell(x, times("cut 0 1", 6));
+    due("top(0)", x.top(0), 7);
+    due("takes(0)", x.takes(0), 128);
+    due("loss(0)", x.loss(0), 17);
+    due("lifts(6, 1)", x.lifts(6, 1), 128);
+    due("doom(0)", x.doom(0), 16 + 15 + 14 + 13 + 12 + 11);
+    due("doom(1)", x.doom(1), 252);
+    due("swapped(NONE)", x.swapped(NONE), 81);
+    due("swapped(5)", x.swapped(5), 1);
+    due("given(7, 91, 0)", x.given(7, 91, 0), 6);
+    due("given(0, 98, 0)", x.given(0, 98, 0), 7);
+    due("given(0, 99, 0)", x.given(0, 99, 0), NONE);
+    due("cat(7, 0)", x.cat(7, 0), 1);
+    due("cat(7, 1)", x.cat(7, 1), 1);
+    due("mean(0)", x.mean(0), 17);
+    due("whose(128)", x.whose(128), 255);
+    due("fourth(0)", x.fourth(0), 0);
+    due("fourth(1)", x.fourth(1), 17);
+    due("put(0, 7) ring", x.put(0, 7), NOT);
+    for (int i = 0; i < 4; i++) due("cut(0)", x.cut(0), 1);
+    due("tails(NONE)", x.tails(NONE), 17 + 16 + 15 + 14);
+    for (int i = 4; i < 8; i++) due("tails(" + i + ")", x.tails(i), i - 4);
+    due("thread(7, 6)", x.thread(7, 6), 0);
+    due("undo()", x.undo(), 3);
+    due("tails(NONE) with three", x.tails(NONE), 48);
+    due("tails(4) is whole", x.tails(4), NONE);
+    tell(x, "knot 0 7;knot 7 1;knot 1 6;knot 6 2;knot 2 5;knot 5 3;knot 3 4");
+    due("takes(4) by a long row of knots", x.takes(4), 255);
+    due("cut(4)", x.cut(4), 8);
+    due("lost", x.count(4), 108);
+    due("tails(NONE) with none whole", x.tails(NONE), 0);
   }
 
   private static void p30() {
