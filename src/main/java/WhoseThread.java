@@ -15,6 +15,7 @@ public final class WhoseThread {
     private static final int MOST_DAYS = 99;
     private static final int MOST_UNDONE = 8;
     private static final int MOST_KEPT = 2;
+    private static final int ABOVE_ALL_LOSS = 2 * LONGEST * MOST_THREADS + 1;
 
     private static final int PLAIN = 0, BRAVE = 1, SILK = 2, ENDLESS = 3;
     private static final int OVER = 4, KNOT = 5, CUT = 6, LOOM = 7, CALM = 8, FREE = 9;
@@ -950,7 +951,7 @@ public final class WhoseThread {
                     coming |= bit(i);
                 }
             }
-            least = Integer.MAX_VALUE;
+            least = ABOVE_ALL_LOSS;
             dealFrom(0, NONE, coming, now.whole, 0);
         }
 

@@ -30,6 +30,7 @@ public final class LanguageTest {
     for (Class<?> inside : WhoseThread.class.getDeclaredClasses()) nested(inside);
     String code = bare(Files.readString(Path.of(SOURCE)));
     words(code);
+    library(code);
     methods(code);
     System.out.println(wrong == 0 ? "the face and the rules are kept" : wrong + " rules are not kept");
     if (wrong != 0) System.exit(1);
@@ -59,7 +60,7 @@ public final class LanguageTest {
     must(made.length == 1 && Modifier.isPublic(made[0].getModifiers()) && made[0].getParameterCount() == 0, "one constructor");
     Set<String> constants = new TreeSet<>();
     for (Field f : c.getDeclaredFields()) {
-      if (Modifier.isStatic(f.getModifiers())) must(Modifier.isFinal(f.getModifiers()), f + " is final");
+      if (Modifier.isStatic(f.getModifiers())) must(Modifier.isFinal(f.getModifiers()) && f.getType() == int.class, "rule 5, " + f);
       if (Modifier.isPrivate(f.getModifiers())) continue;
       must(Modifier.isPublic(f.getModifiers()) && Modifier.isStatic(f.getModifiers()), f + " is a constant");
       constants.add(f.getName());
@@ -69,6 +70,7 @@ public final class LanguageTest {
 
   private static void nested(Class<?> c) {
     must(Modifier.isStatic(c.getModifiers()), c + " is static");
+    for (Field f : c.getDeclaredFields()) must(!Modifier.isStatic(f.getModifiers()), "rule 5, " + f);
     must(c.getDeclaredFields().length <= 20, c + " has few fields");
     for (Method m : c.getDeclaredMethods()) {
       must(m.getParameterCount() <= 7, m + " takes seven at most");
@@ -90,8 +92,24 @@ public final class LanguageTest {
     must(!code.contains("->") && !code.contains("::"), "no lambda, no method reference");
     must(!Pattern.compile("\\w+Exact\\b").matcher(code).find(), "nothing that ends in Exact");
     Matcher calls = Pattern.compile("\\b(System|Math|Integer|Arrays|Long)\\.(\\w+)").matcher(code);
-    Set<String> may = Set.of("System.arraycopy", "Math.max", "Math.min", "Integer.bitCount", "Integer.numberOfTrailingZeros", "Integer.MAX_VALUE");
-    while (calls.find()) must(may.contains(calls.group()), "the library's " + calls.group());
+    Set<String> may = Set.of("System.arraycopy", "Math.max", "Math.min", "Integer.bitCount", "Integer.numberOfTrailingZeros");
+    while (calls.find()) must(may.contains(calls.group()), "rule 4, the library's " + calls.group());
+  }
+
+  /** Rule 4: what is called is the program's own, or of the library as far as it is listed; what is made, too. */
+  private static void library(String code) {
+    Set<String> may = new TreeSet<>(List.of("arraycopy", "max", "min", "bitCount", "numberOfTrailingZeros", "length", "charAt"));
+    Set<String> own = new TreeSet<>(List.of("int"));
+    for (Class<?> inside : WhoseThread.class.getDeclaredClasses()) {
+      own.add(inside.getSimpleName());
+      for (Method m : inside.getDeclaredMethods()) may.add(m.getName());
+    }
+    Matcher calls = Pattern.compile("\\.(\\w+)\\(").matcher(code);
+    while (calls.find()) must(may.contains(calls.group(1)), "rule 4, a call of " + calls.group(1));
+    Matcher made = Pattern.compile("\\bnew (\\w+)").matcher(code);
+    while (made.find()) must(own.contains(made.group(1)), "rule 3, a new " + made.group(1));
+    must(!code.contains("[]["), "rule 3, rows of one dimension");
+    must(!code.contains("..."), "rule 3, no row of arguments");
   }
 
   private static void methods(String code) {
